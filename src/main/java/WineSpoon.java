@@ -29,6 +29,7 @@ public final class WineSpoon {
     private static final int MOST_TIMES = 20;
     private static final int MOST_NUMBER = 1000;
     private static final long MOST_VALUE = 1_000_000_000L;
+    private static final long BROKEN = MOST_VALUE + 1;
 
     private static final int MOST_ROUNDS = 6;
     private static final int HUNDRED = 100;
@@ -1448,30 +1449,31 @@ public final class WineSpoon {
                 case NOT:
                     return push(1 - pop());
                 default:
-                    return combine(code, pop(), pop());
+                    return push(combined(code, pop(), pop()));
             }
         }
 
         /** The right one lies above the left one on the stack. */
-        private boolean combine(int code, long right, long left) {
+        private static long combined(int code, long right, long left) {
             switch (code) {
                 case ADD:
-                    return push(left + right);
+                    return left + right;
                 case SUBTRACT:
-                    return push(left - right);
+                    return left - right;
                 case MULTIPLY:
-                    return push(left * right);
+                    return left * right;
                 case DIVIDE:
-                    return right != 0 && push(left / right);
+                    return right == 0 ? BROKEN : left / right;
                 case LESS:
-                    return push(left < right ? 1 : 0);
+                    return left < right ? 1 : 0;
                 case MORE:
-                    return push(left > right ? 1 : 0);
+                    return left > right ? 1 : 0;
                 default:
-                    return push(left == right ? 1 : 0);
+                    return left == right ? 1 : 0;
             }
         }
 
+        /** False for a value beyond what a sum may have. */
         private boolean push(long value) {
             if (height >= MOST_PARTS || value > MOST_VALUE || value < -MOST_VALUE) {
                 return false;
