@@ -3,6 +3,8 @@ public final class EmptyAndFullTest {
     public static void main(String[] args) {
         newObjectAsked();
         newObjectCalled();
+        spoonsWithoutGlasses();
+        glassesWithoutSpoons();
         glasses();
         spoons();
         tastings();
@@ -64,6 +66,36 @@ public final class EmptyAndFullTest {
         due("night", new WineSpoon().night(0, 1), 0);
         due("image", new WineSpoon().image(0), 0);
         due("back", new WineSpoon().back(0), -2);
+    }
+
+    private static void spoonsWithoutGlasses() {
+        WineSpoon x = new WineSpoon();
+        for (int spoons = 1; spoons <= 3; spoons++) {
+            x.size(spoons);
+            due("night", x.night(7, 20), 0);
+            due("status of it", x.status(), 0);
+            due("drawn", x.drawn(0, 0), -1);
+            due("fits by none", x.fits(0, -1, 0), 1);
+            due("fits by one", x.fits(1, -1, 0), 0);
+            due("fits by three", x.fits(3, -1, 0), 0);
+            due("reach", x.reach(0, 0, 50, 100, -1, 0), -1);
+        }
+    }
+
+    private static void glassesWithoutSpoons() {
+        WineSpoon x = new WineSpoon();
+        for (int g = 0; g < 6; g++) {
+            x.glass(10);
+            x.fill(g, 1, 5);
+            due("night", x.night(7, 20), 0);
+            due("status of it", x.status(), 0);
+            due("drawn", x.drawn(g, 1), 100);
+            due("drawn of the next", x.drawn(g + 1, 1), -1);
+            due("fits by none", x.fits(0, -1, 0), 1);
+            due("fits by one", x.fits(1, -1, 0), 0);
+            due("reach as it is", x.reach(g, 1, 100, 0, -1, 0), 0);
+            due("reach by moves", x.reach(g, 1, 50, 0, -1, 0), -1);
+        }
     }
 
     private static void glasses() {

@@ -11,6 +11,7 @@ public final class EveningEdgesTest {
         fiftyFirstPart();
         ninthBracket();
         bracketsSideBySide();
+        comparedAndTurned();
         runInOrder();
         ifAheadOfSum();
         askedEachTime();
@@ -352,6 +353,41 @@ public final class EveningEdgesTest {
     }
 
     // ---- how it is run
+
+    private static void comparedAndTurned() {
+        String[] signs = {"<", "=", ">"};
+        for (int left = 1; left <= 3; left++) {
+            for (int k = 0; k < 3; k++) {
+                boolean so = left == k + 1;
+                String test = left + signs[k] + "2";
+                test(test, so);
+                test("not " + test, !so);
+                test("not not " + test, so);
+                test("not (" + test + ")", !so);
+                test("(not " + test + ") and 1=1", !so);
+                test("not " + test + " or 1=2", !so);
+            }
+        }
+        test("0-1<0", true);
+        test("0-2<0-1", true);
+        test("0-1>0-2", true);
+        test("1-1=0", true);
+        // "not" takes the next plain test alone, "and" is ahead of "or"
+        test("not 1=2 and 1=2", false);
+        test("not (1=2 and 1=2)", true);
+        test("1=1 or 1=1 and 1=2", true);
+        test("(1=1 or 1=1) and 1=2", false);
+        test("1=2 and 1=2 or 1=1", true);
+        test("1=2 and (1=2 or 1=1)", false);
+        sum("2+3*4-5*2", 4);
+        sum("[2+3]*[4-2]", 10);
+        sum("20-5-3", 12);
+        sum("20-[5-3]", 18);
+        sum("48/4/2", 6);
+        sum("48/[4/2]", 24);
+        sum("6*5/4", 7);
+        sum("6/4*5", 5);
+    }
 
     private static void runInOrder() {
         WineSpoon x = table();

@@ -321,26 +321,31 @@ public final class ImagesTest {
 
     /** Moves behind back must not bring up again what was in glasses that are no longer there. */
     private static void nothingComesBackIntoNewGlasses() {
-        WineSpoon x = table();
-        x.image(0);
-        for (int round = 0; round < 4; round++) {
-            threeMore(x);
-            for (int k = 0; k < round; k++) {
-                x.spoon(3, 4, 1);
-            }
-            x.back(0);
-            for (int k = 0; k < round; k++) {
-                x.spoon(0, 1, 1);
-                x.lick(1, 1);
-            }
-            for (int g = 3; g < 6; g++) {
-                due("a new glass", x.glass(30), g);
-                due("is empty", x.of(g, 1), 0);
-                for (int s = 0; s < 4; s++) {
-                    due("of stuff " + s, x.part(g, s), 0);
+        for (int ahead = 0; ahead < 4; ahead++) {
+            for (int moves = 0; moves < 4; moves++) {
+                WineSpoon x = table();
+                x.image(0);
+                threeMore(x);
+                for (int k = 0; k < ahead; k++) {
+                    x.spoon(3, 4, 1);
                 }
+                x.back(0);
+                for (int k = 0; k < moves; k++) {
+                    due("a move behind back", x.lick(1, 1) >= 0 ? 1 : 0, 1);
+                }
+                newGlassesAreEmpty(x);
             }
-            x.back(0);
+        }
+    }
+
+    private static void newGlassesAreEmpty(WineSpoon x) {
+        for (int g = 3; g < 6; g++) {
+            due("a new glass", x.glass(30), g);
+            due("is empty", x.of(g, 1), 0);
+            for (int s = 0; s < 4; s++) {
+                due("of stuff " + s, x.part(g, s), 0);
+                due("tastes of none", x.taste(g, s), 0);
+            }
         }
     }
 }

@@ -220,13 +220,12 @@ public final class RefusedTest {
         refused("lick more than there is", -3, RefusedTest::fullOfNumbers, x -> x.lick(0, 11));
     }
 
-    /** Refused by this; but the tape is empty then, and of these three what is due is told. */
+    /** Refused by this: the tape is empty then, fault() and stopped() are as told, and all else is as it was. */
     private static void textRefused(String text, int by, int fault, int stopped, Table table) {
         WineSpoon x = table.make();
         WineSpoon y = table.make();
-        // the other one's fault and stop are made what they must become here, by an evening of its own
-        Check.evening(y, fault >= 0 ? " ".repeat(fault) + "!" : "lick 1 from 5;".repeat(stopped).replace(";", " if 1=2;") + "lick 1 from 5");
-        Look ahead = Look.at(y);
+        failAlike(y, fault, stopped);
+        Look due = Look.at(y);
         long[] counts = counts(x);
         Check.due(text, Check.evening(x, text), by);
         Check.due("status behind " + text, x.status(), by);
@@ -237,7 +236,13 @@ public final class RefusedTest {
         Check.due("fault of " + text, x.fault(), fault);
         Check.due("stopped of " + text, x.stopped(), stopped);
         Check.due("bytes behind " + text, x.count(4), 0);
-        ahead.same(text, Look.at(x));
+        due.same(text, Look.at(x));
+    }
+
+    /** An evening that does nothing and has this fault, or stops at this clause. */
+    private static void failAlike(WineSpoon x, int fault, int stopped) {
+        String text = fault >= 0 ? " ".repeat(fault) + "!" : "lick 1 from 5 if 1=2;".repeat(stopped) + "lick 1 from 5";
+        Check.evening(x, text);
     }
 
     // -6, and what an evening is refused by
