@@ -958,36 +958,61 @@ public final class WineSpoon {
         private final int[] tried = new int[MOST_WINES];
         private final int[] best = new int[MOST_WINES];
         private int bestPrice;
+        /** of a wine and all behind it: how much there is, the least and the most strength, the least price */
+        private final int[] amounts = new int[MOST_WINES + 1];
+        private final int[] weakest = new int[MOST_WINES + 1];
+        private final int[] strongest = new int[MOST_WINES + 1];
+        private final int[] cheapest = new int[MOST_WINES + 1];
 
         int leastPrice(State state, int amount, int strength) {
             bestPrice = NONE;
+            lookBehind(state);
             take(state, 0, amount, amount * strength, 0);
             return bestPrice;
         }
 
+        private void lookBehind(State state) {
+            int behind = Math.min(state.wineCount, MOST_WINES);
+            amounts[behind] = 0;
+            weakest[behind] = HUNDRED;
+            strongest[behind] = 0;
+            cheapest[behind] = MOST_PRICE;
+            for (int wine = behind - 1; wine >= 0; wine--) {
+                weakest[wine] = Math.min(weakest[wine + 1], state.wines[TRIPLE * wine]);
+                strongest[wine] = Math.max(strongest[wine + 1], state.wines[TRIPLE * wine]);
+                cheapest[wine] = Math.min(cheapest[wine + 1], state.wines[TRIPLE * wine + 1]);
+                amounts[wine] = amounts[wine + 1] + state.wines[TRIPLE * wine + 2];
+            }
+        }
+
         /** Tries all amounts of this wine and those behind it; less comes first, so a later row must be cheaper. */
         private void take(State state, int wine, int amountLeft, int strengthLeft, int price) {
-            if (bestPrice != NONE && price >= bestPrice) {
+            if (!canBe(wine, amountLeft, strengthLeft) || !canBeCheaper(wine, amountLeft, price)) {
                 return;
             }
             if (wine >= state.wineCount || wine >= MOST_WINES) {
-                judge(amountLeft, strengthLeft, price);
+                bestPrice = price;
+                System.arraycopy(tried, 0, best, 0, MOST_WINES);
                 return;
             }
             int strength = state.wines[TRIPLE * wine];
             int cost = state.wines[TRIPLE * wine + 1];
             int most = Math.min(amountLeft, state.wines[TRIPLE * wine + 2]);
-            for (int taken = 0; taken <= most && taken * strength <= strengthLeft; taken++) {
+            for (int taken = 0; taken <= most; taken++) {
                 tried[wine] = taken;
                 take(state, wine + 1, amountLeft - taken, strengthLeft - taken * strength, price + taken * cost);
             }
         }
 
-        private void judge(int amountLeft, int strengthLeft, int price) {
-            if (amountLeft == 0 && strengthLeft == 0) {
-                bestPrice = price;
-                System.arraycopy(tried, 0, best, 0, MOST_WINES);
-            }
+        /** Whether it is not yet certain that the wines from this one on can't give what is left. */
+        private boolean canBe(int wine, int amountLeft, int strengthLeft) {
+            int least = amountLeft * weakest[wine];
+            int most = amountLeft * strongest[wine];
+            return amountLeft <= amounts[wine] && isWithin(strengthLeft, least, most);
+        }
+
+        private boolean canBeCheaper(int wine, int amountLeft, int price) {
+            return bestPrice == NONE || price + amountLeft * cheapest[wine] < bestPrice;
         }
     }
 
